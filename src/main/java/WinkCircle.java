@@ -849,15 +849,6 @@ public final class WinkCircle {
             look[player] = above(player);
         }
 
-        void fallAsleep(int sleepers) {
-            asleep = sleepers;
-            for (int p = 0; p < players; p++) {
-                if (isAsleep(p)) {
-                    look[p] = NONE;
-                }
-            }
-        }
-
         private boolean isAsleep(int player) {
             return (asleep >> player & 1) == 1;
         }
@@ -1265,7 +1256,7 @@ public final class WinkCircle {
 
         private boolean isFoundThough(Circle now, int sleepers, int n) {
             trial.takeFrom(now);
-            trial.fallAsleep(sleepers);
+            trial.asleep = sleepers;
             for (int t = 0; t < n && !trial.found; t++) {
                 trial.passTick();
             }

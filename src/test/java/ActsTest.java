@@ -71,6 +71,16 @@ public final class ActsTest {
         x.ticks(1);
         check.due("2 has none to look at", x.player(2, 1), NONE);
         check.due("3 of 3 do not look at 2", x.player(2, 5), 0);
+        x = Check.of("w0,9;s1,9;r2,1;b0,1;s1,1;");
+        x.turnHead(1, 3);
+        check.due("1, a rover, is dead", x.ticks(2), 2);
+        check.due("it looks at none", x.player(1, 1), NONE);
+        x.ticks(3);
+        check.due("and does so from then on", x.player(1, 1), NONE);
+        x.turnHead(0, 2);
+        x.turnHead(2, 1);
+        check.due("2, that roves back, too", x.ticks(3), 6);
+        check.due("looks at none", x.player(2, 1), NONE);
     }
 
     private static void winksAndFades() {
@@ -108,6 +118,16 @@ public final class ActsTest {
         check.due("1 fades as well", x.stand(5), 14);
         check.due("1 saw its own no more", x.player(1, 4), 2);
         check.due("2 saw another", x.player(2, 4), 2);
+        x = Check.of("w2,1;s2,1;s2,1;s1,1;");
+        x.ticks(1);
+        check.due("0 saw it", x.player(0, 4), 1);
+        check.due("all together, 0 alone", x.count(5), 1);
+        check.due("0 tells", x.stand(3), 1);
+        x.role(1);
+        check.due("0 forgets it by another murderer", x.player(0, 4), 0);
+        x = Check.of("w7,1;s7,1;s7,1;s7,1;s7,1;s7,1;s7,1;s7,1;s0,1;");
+        check.due("with eight", x.ticks(2), 1);
+        check.due("six saw it", x.count(5), 6);
     }
 
     private static void tells() {

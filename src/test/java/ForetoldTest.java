@@ -18,6 +18,7 @@ public final class ForetoldTest {
         findsPassingProof();
         findsSets();
         shares();
+        looksSixtyTicksAhead();
         changesNothing();
         check.end();
     }
@@ -76,6 +77,29 @@ public final class ForetoldTest {
         check.due("player 4", x.when(4, 1), BAD);
         check.due("player -1", x.when(-1, 1), BAD);
         check.due("no circle", new WinkCircle().when(0, 1), BAD);
+    }
+
+    private static void edge(String call, int got, int at, int passed) {
+        check.due(call + " with " + passed + " ticks passed", got, at - passed > 60 ? NONE : Math.max(0, at - passed));
+    }
+
+    private static void looksSixtyTicksAhead() {
+        WinkCircle x = Check.of("w5,2;d2,8;h0,6;d0,9;d0,7;s4,9;r0,9;b6,8;s4,6;");
+        for (int passed = 0; passed < 74; passed++) {
+            edge("0 fades", x.when(0, 1), 63, passed);
+            edge("0 is dead", x.when(0, 2), 71, passed);
+            if (passed <= 63) {
+                edge("0 and 5 meet", x.meet(0, 5), 63, passed);
+            }
+            check.due("how 0 is", x.player(0, 0), passed < 63 ? 0 : passed < 71 ? 1 : 2);
+            x.ticks(1);
+        }
+        x = Check.of("w7,5;b6,7;b1,8;r4,9;r6,7;r4,6;d7,9;h7,7;d0,7;");
+        for (int passed = 0; passed < 68; passed++) {
+            edge("out", x.out(), 65, passed);
+            check.due("whether it is", x.stand(3), passed < 65 ? 0 : 1);
+            x.ticks(1);
+        }
     }
 
     private static void tellsOut() {
@@ -199,6 +223,12 @@ public final class ForetoldTest {
         x.undo();
         check.due("2 saw eight", x.player(2, 4), 8);
         check.due("found out by any proof", x.pass(1), NONE);
+        x.undo();
+        x.undo();
+        x.undo();
+        x.undo();
+        check.due("2 saw seven", x.player(2, 4), 7);
+        check.due("by all but the greatest", x.pass(1), 9);
     }
 
     private static void findsSets() {
@@ -232,6 +262,16 @@ public final class ForetoldTest {
         check.due("nor counted", x.sets(2, 0), 4);
         check.due("1 and 3", x.sets(4, 1), 10);
         check.due("with or without 0", x.sets(4, 0), 2);
+        x = Check.of("w2,9;s2,1;s2,1;s1,1;");
+        x.ticks(1);
+        check.due("0 saw one", x.player(0, 4), 1);
+        check.due("0 is in all", x.sets(1, 1), 1);
+        check.due("others are in some", x.sets(1, 2), 7);
+        x = Check.of("w1,9;s1,1;s0,1;s1,1;");
+        x.ticks(2);
+        check.due("0 is dead", x.stand(6), 1);
+        check.due("2 in all", x.sets(1, 1), 4);
+        check.due("1 and 2 in any", x.sets(1, 2), 6);
     }
 
     private static void shares() {
@@ -259,6 +299,14 @@ public final class ForetoldTest {
         x.ticks(1);
         check.due("a dead one has a share", x.share(2, 999), 333);
         check.due("the greatest", x.share(1, 999), 333);
+        x = Check.of("w2,9;s2,1;s2,1;s1,1;s2,1;");
+        x.ticks(1);
+        check.due("0 and 3 saw one", x.count(5), 2);
+        check.due("0 gets what is over", x.share(0, 7), 4);
+        check.due("3 does not", x.share(3, 7), 3);
+        x = Check.of("w2,9;s2,1;s2,1;s1,1;");
+        x.ticks(1);
+        check.due("one gets all", x.share(0, 999), 999);
     }
 
     private static void changesNothing() {

@@ -54,6 +54,17 @@ public final class GuessesTest {
         check.due("the head of a dead one does nothing", x.byTurns(3, 5), 2);
         x.role(1);
         check.due("nor that of a dead murderer", x.byTurns(3, 5), 2);
+        // Two rovers that meet if their looks are in step; who turns last sees to that, or against it.
+        x = Check.of("w0,9;r1,1;r0,1;s3,1;s2,1;");
+        check.due("in step", x.byTurns(0, 4), 1);
+        check.due("the one keeps it", x.byTurns(1, 4), 1);
+        check.due("the other has the last turn", x.byTurns(2, 4), 0);
+        check.due("the one has it", x.byTurns(3, 4), 1);
+        x = Check.of("w3,9;r2,1;s2,1;s1,1;r1,1;");
+        check.due("not in step, 3 and 0", x.byTurns(0, 4), 0);
+        check.due("the head of 3 comes to 0", x.byTurns(1, 4), 1);
+        check.due("the other has the last turn, 3 and 0", x.byTurns(2, 4), 0);
+        check.due("the one has it, 3 and 0", x.byTurns(3, 4), 1);
         x = Check.of("w0,9;d2,1;s0,1;s1,1;");
         x.ticks(2);
         check.due("a dozer's head, that looks at none, can be turned", x.byTurns(3, 3), 1);
@@ -163,6 +174,7 @@ public final class GuessesTest {
         likely(x, 1, 4, 9, 25);
         likely(x, 60, 5, 1, 4);
         likely(x, 1, 1, 81, 100);
+        likely(x, 1, 9, 1, 100);
         likely(x, 0, 4, 0, 1);
         likely(x, 9, 0, 1, 1);
         likely(x, 9, 10, 0, 1);
@@ -186,6 +198,12 @@ public final class GuessesTest {
         // 2, who looks at 0, is winked at, and 3 sees it; else 3 is, by the next tick, and none sees it.
         likely(x, 1, 3, 49, 100);
         likely(x, 2, 3, 49, 100);
+        // 0 sees 2 wink at 1.
+        x = Check.of("w2,1;s2,1;s2,1;s1,1;");
+        likely(x, 1, 4, 9, 25);
+        // A rover that sleeps does not rove on: 3 sees it only awake, 1 is winked at only awake.
+        x = Check.of("w0,1;s1,1;r3,1;s3,1;b1,1;");
+        likely(x, 1, 2, 16, 25);
         // All but the murderer are dead.
         x = Check.of("w0,9;r0,1;s0,1;s0,1;");
         x.ticks(4);
@@ -227,6 +245,17 @@ public final class GuessesTest {
         // Seed 1, X 16807: 1 sits up, looks at 2.
         check.due("none dies", x.drawn(1, 1, 0), 0);
         check.due("1 does not look at 0", x.drawn(3, 1, 0), 0);
+        x = Check.of("w0,9;s1,1;r2,1;s1,1;");
+        check.due("1, a rover, is dead", x.ticks(2), 2);
+        // X 16807: 1 sits up, and comes to look at 0. X 282475249: 1, not by 3; it dies again.
+        check.due("none dies, though one was dead", x.drawn(1, 1, 0), 0);
+        check.due("1 dies again", x.drawn(2, 1, 0), 1);
+        x = Check.of("w0,9;r2,1;s0,1;s0,1;");
+        x.ticks(2);
+        check.due("1 is dead, 2 fades", x.stand(6) * 8 + x.stand(5), 2 * 8 + 4);
+        // Seed 9, X 151263: 0, its head to 1; 2 dies.
+        check.due("the one that was dead is not counted", x.drawn(1, 9, 0), 1);
+        check.due("the longest", x.drawn(60, 999999, 1), 0);
     }
 
     /** Read plainly: by a draw of the same one, a new round begins, too. */

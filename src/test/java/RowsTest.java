@@ -33,9 +33,11 @@ public final class RowsTest {
         check.due("fewer than none", x.row(0, 0, -1), SIZE);
         check.due("least int", x.row(0, 0, Integer.MIN_VALUE), SIZE);
         check.due("the row is still there", x.set(0, 2, 9), 9);
+        check.due("the first item, too", x.set(0, 0, 9), 9);
         check.due("items are not 0", x.who(1, 3, 0, 2, 1), 0);
         check.due("in place of what was there", x.row(0, 1, 3), 3);
         check.due("items are 0 at first", x.who(1, 3, 0, 2, 1), 1022);
+        check.due("the first item is", x.who(1, 3, 0, 0, 1), 1022);
         check.due("still three rows", x.count(0), 3);
         check.due("its lane is new", x.set(0, 0, 300), 300);
         check.due("a row of none has no place", x.set(3, 0, 1), PLACE);

@@ -12,6 +12,7 @@ public final class TextsTest {
         reads();
         findsFaults();
         keepsAllByFault();
+        forgetsTextsReadBefore();
         standsInPlace();
         undoes();
         check.end();
@@ -144,6 +145,15 @@ public final class TextsTest {
         Check.feedAll(x, THREE);
         check.due("read then", x.circle(), 3);
         check.due("the latest fault stays", x.fault(), 2);
+    }
+
+    private static void forgetsTextsReadBefore() {
+        for (int bytes = 0; bytes < THREE.length(); bytes++) {
+            WinkCircle x = Check.of(THREE);
+            Check.feedAll(x, THREE.substring(0, bytes));
+            check.due("the first " + bytes + " bytes of the text before", x.circle(), -1000100 - bytes);
+            check.due("its fault", x.fault(), 1);
+        }
     }
 
     private static void standsInPlace() {
