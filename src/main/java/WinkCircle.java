@@ -1145,7 +1145,7 @@ public final class WinkCircle {
         }
 
         /** What comes of the turns from this one on, by the heads as they are on the table. */
-        int outcomeOfTurns(int turn, int n, int m) {
+        private int outcomeOfTurns(int turn, int n, int m) {
             if (turn >= n || turn >= MOST_TURNS) {
                 trial.takeFrom(table);
                 trial.passTicks(m);

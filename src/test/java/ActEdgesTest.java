@@ -276,6 +276,9 @@ public final class ActEdgesTest {
             """);
         runs.holds(12, "nobody SAW any more, it is not FOUND OUT", QUICK + """
             ticks 2 = 2 / stand 3 = 1 / player 2 4 = 1 / role 1 = 0 / stand 3 = 0 / player 2 4 = 0 / count 5 = 0 / stand 6 = 2
+            tell w2,1;s2,1;s2,1;s1,1; = 3 / ticks 1 / player 0 4 = 1 / stand 3 = 1 / role 0 = 2 / player 0 4 = 0 / count 5 = 0 / stand 3 = 0
+            tell w0,1;s7,1;s0,1;s0,1;s0,1;s0,1;s0,1;s0,1;s0,1; = 8 / ticks 1 / player 7 4 = 0 / count 5 = 6
+            player 6 4 = 1 / role 7 = 0 / player 6 4 = 0 / count 5 = 0
             """);
         runs.refused(12, "who was. BAD; STATE: it is that one.", BUSY, """
             role -1 = BAD / role 5 = BAD / role min = BAD / role max = BAD / role 0 = STATE
@@ -325,6 +328,9 @@ public final class ActEdgesTest {
             player 0 3 = 0 / player 2 3 = 1 / player 3 3 = 0
             player 0 4 = 0 / player 1 4 = 2 / player 2 4 = 1 / player 3 4 = 1 / player 4 4 = 1
             player 0 5 = 6 / player 1 5 = 0 / player 2 5 = 16 / player 3 5 = 0 / player 4 5 = 1
+            """);
+        runs.holds(15, "5 who LOOKS at it (bits)", """
+            tell w0,1;s7,1;s0,1;s0,1;s0,1;s0,1;s0,1;s0,1;s0,1; = 8 / player 0 5 = 254 / player 7 5 = 1 / player 3 5 = 0
             """);
         runs.refused(15, "5 who LOOKS at it (bits). BAD.", BUSY, """
             player -1 0 = BAD / player 5 0 = BAD / player min 0 = BAD / player max 5 = BAD

@@ -227,6 +227,10 @@ public final class ForetoldEdgesTest {
             sets 0 1 = 0 / sets 0 2 = 15 / sets 1 1 = 0 / sets 1 2 = 0 / ticks 2
             sets 3 1 = 2 / sets 3 2 = 15 / sets 4 1 = 14 / sets 4 2 = 15 / sets 5 1 = 0 / sets 5 2 = 0 / sets 99 1 = 0 / sets 99 2 = 0
             """);
+        runs.holds(25, "in all of these (none: 0); in any", """
+            tell w2,9;s2,1;s2,1;s1,1; = 3 / ticks 1 / player 0 4 = 1 / sets 1 0 = 4 / sets 1 1 = 1 / sets 1 2 = 7 / sets 0 0 = 4 / sets 0 2 = 6
+            tell w1,9;s1,1;s0,1;s1,1; = 3 / ticks 2 = 1 / sets 1 0 = 2 / sets 1 1 = 4 / sets 1 2 = 6 / sets 0 1 = 0 / sets 0 2 = 2
+            """);
         runs.holds(25, "sets of PLAYERS", "tell w7,9;s7,1;s7,1;s7,1;s7,1;s7,1;s7,1;s7,1;s0,1; = 8\n"
             + "sets 0 0 = 256 / sets 0 2 = 255 / ticks 1 / sets 0 0 = 4 / sets 1 0 = 24 / sets 3 0 = 80 / sets 6 0 = 4 / sets 6 1 = 126 / sets 6 2 = 255");
     }
@@ -258,6 +262,11 @@ public final class ForetoldEdgesTest {
             tell w2,9;s2,1;s2,1;s1,1;s2,1;s2,1; = 5 / ticks 1 / count 5 = 3
             share 0 5 = 2 / share 1 5 = 0 / share 2 5 = 0 / share 3 5 = 2 / share 4 5 = 1
             share 0 4 = 2 / share 3 4 = 1 / share 4 4 = 1 / share 0 2 = 1 / share 3 2 = 1 / share 4 2 = 0
+            """);
+        runs.holds(26, "n times what it SAW by what all SAW (cut)", QUICK + """
+            ticks 1 / count 5 = 1 / share 2 9 = 9 / share 2 999 = 999 / share 2 1 = 1 / share 1 999 = 0
+            tell w7,9;s7,1;s7,1;s7,1;s7,1;s7,1;s7,1;s7,1;s0,1; = 8 / ticks 1 / count 5 = 6 / share 1 999 = 167 / share 3 999 = 167
+            share 4 999 = 166 / share 6 999 = 166 / share 0 999 = 0 / share 7 999 = 0 / share 6 5 = 0 / share 5 5 = 1
             """);
         runs.holds(26, "by what all SAW", ROUND + "ticks 3 = 4 / share 1 999 = 333 / share 2 999 = 333 / share 2 6 = 2");
         runs.holds(26, "(0, if none did)", ROUND + "share 0 999 = 0 / share 1 999 = 0 / share 3 1 = 0 / ticks 2 / role 1 / share 1 999 = 0");

@@ -282,6 +282,11 @@ public final class GuessEdgesTest {
         runs.leavesAll(29, "FORETOLD (nothing changes).", BUSY, "sleep 60 5 0 = 1 / sleep 60 5 1 = 1");
         runs.leavesAll(29, "FORETOLD (nothing changes).", QUICK, "sleep 60 5 0 = 1 / sleep 60 5 1 = 4");
         runs.leavesAll(30, "FORETOLD (nothing changes).", BUSY, "drawn 60 1 0 / drawn 60 999999 1 / drawn 0 1 0 = 0");
+        runs.holds(29, "FORETOLD (nothing changes).", QUICK + """
+            sleep 60 10 0 = 0 / toll 2 0 = 2 / sleep 60 5 0 = 1 / when 1 2 = 2 / sleep 60 5 1 = 4 / drawn 2 1 0 = 1 / out = 1
+            sleep 60 9 0 / byTurns 0 2 = 1 / sleep 60 9 0 / bestRole 2 1 = 1 / sleep 60 9 0 / glance 2 1 = 1 / sleep 60 9 0 / pass 2 = 2
+            sleep 60 9 0 / meet 0 1 = 0 / ahead 1 1 1 = 0 / ticks 2 = 2
+            """);
         // A guess that had no finding leaves status() at 0, so it was 0 ahead.
         runs.leavesAll(28, "FORETOLD (nothing changes).", BUSY + "as 0 0 = 0", """
             who 0 0 0 0 1 = 31 / who 2 1 0 0 1 = 62 / who 2 2 0 0 1 = 27 / who 2 3 0 0 1 = 1022 / who 0 0 1 0 12 = 0

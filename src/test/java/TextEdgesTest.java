@@ -158,6 +158,11 @@ public final class TextEdgesTest {
             lines.append("tell ").append(THREE, 0, bytes).append(" = F").append(bytes).append(" / fault = 1 / stand 0 = STATE\n");
         }
         runs.holds(7, "the end: how many bytes there are", lines + "tell " + THREE + " = 3");
+        // What was on the tape before is not there any more.
+        runs.holds(7, "The tape, empty then", "tell w00,01;r00,01;r00,01;r00,01; = 3 / tell w0,1; = F5 / fault = 1 / "
+            + "tell w00,01;r00,01;r00,01;r00,01; = 3 / tell w0 = F2 / fault = 1 / tell w00,0 = F4 / "
+            + "fault = 2 / tell w00,01;r0 = F9 / fault = 1 / tell w0,1; = F5 / fault = 1 / tell " + LAW + ROVER + " = F10 / tell "
+            + LAW + ROVER + ROVER + " = F15 / tell = F0 / fault = 1 / stand 0 = 3");
         runs.holds(7, "circle: law player player player { player }.", "tell " + THREE + "s = F21 / fault = 1 / tell "
             + THREE + "s0 = F22 / fault = 1 / tell " + THREE + "s0, = F23 / fault = 1 / tell " + THREE
             + "s0,1 = F24 / fault = 1 / tell " + THREE + "s0,1; = 4 / tell " + THREE + "w0,1; = F20 / fault = 1 / tell "
