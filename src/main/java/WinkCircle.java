@@ -334,8 +334,7 @@ public final class WinkCircle {
         if (n < 0 || n > Seer.MOST_TURNS || m < 1 || m > 20) {
             return BAD;
         }
-        seer.layTable(now);
-        return seer.outcomeOfTurns(0, n, m);
+        return seer.whatComesOfTurns(now, n, m);
     }
 
     public int who(int player, int which, int row, int i, int n) {
@@ -1140,20 +1139,23 @@ public final class WinkCircle {
             return n * now.saw[player] / all + (earlier < over ? 1 : 0);
         }
 
-        void layTable(Circle now) {
+        int whatComesOfTurns(Circle now, int n, int m) {
             table.takeFrom(now);
+            return outcomeOfTurns(table, trial, 0, n, m);
         }
 
         /** What comes of the turns from this one on, by the heads as they are on the table. */
-        private int outcomeOfTurns(int turn, int n, int m) {
+        private static int outcomeOfTurns(Circle table, Circle trial, int turn, int n, int m) {
             if (turn >= n || turn >= MOST_TURNS) {
                 trial.takeFrom(table);
-                trial.passTicks(m);
+                for (int t = 0; t < m; t++) {
+                    trial.passTick();
+                }
                 return trial.howManyDead();
             }
             boolean wantsMany = turn % 2 == 0;
             int head = wantsMany ? table.murderer : table.above(table.murderer);
-            int best = outcomeOfTurns(turn + 1, n, m);
+            int best = outcomeOfTurns(table, trial, turn + 1, n, m);
             if (!table.has(head) || table.how[head] == DEAD) {
                 return best;
             }
@@ -1161,7 +1163,7 @@ public final class WinkCircle {
             for (int seat = 0; seat < table.players; seat++) {
                 if (seat != head && seat != was) {
                     table.look[head] = seat;
-                    int outcome = outcomeOfTurns(turn + 1, n, m);
+                    int outcome = outcomeOfTurns(table, trial, turn + 1, n, m);
                     best = wantsMany ? Math.max(best, outcome) : Math.min(best, outcome);
                 }
             }

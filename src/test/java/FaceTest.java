@@ -10,6 +10,7 @@ import java.util.ArrayList;
 import java.util.Arrays;
 import java.util.Collections;
 import java.util.List;
+import java.util.regex.Matcher;
 import java.util.regex.Pattern;
 
 /** The public face of the document, and those rules of the language that can be looked at from outside. */
@@ -25,12 +26,16 @@ public final class FaceTest {
         "int image(int)", "int restore(int)", "int kind(int)", "int as(int,int)", "int ask(int,int)",
         "int trace(int)", "int count(int)", "int status()"};
 
+    private static final Path SOURCE = Path.of("src/main/java/WinkCircle.java");
+    private static final Pattern SECTION = Pattern.compile("Ahead of the calls ([`\\w, ]+) the interface says: (---- [a-z ]+)\\.");
     private static final Check check = new Check("FaceTest");
 
     public static void main(String[] args) throws IOException {
         constants();
         methods();
         nestedClasses();
+        documentsFace();
+        sections();
         source();
         check.end();
     }
@@ -105,9 +110,47 @@ public final class FaceTest {
         }
     }
 
+    /** The lines of the document's face stand in the class as they are, with the names of what they take. */
+    private static void documentsFace() throws IOException {
+        String document = Files.readString(Path.of("../shared/DOC.md"), StandardCharsets.UTF_8);
+        String source = Files.readString(SOURCE, StandardCharsets.US_ASCII);
+        Matcher face = Pattern.compile("(?s)```java\n(.*?)```").matcher(document);
+        check.holds("the document has a face", face.find());
+        int calls = 0;
+        for (String line : face.group(1).split("\n")) {
+            String bare = line.trim().replaceAll(";$", "");
+            if (bare.startsWith("public")) {
+                check.holds("the class has '" + bare + "'", source.contains(bare));
+                calls += bare.contains("(") ? 1 : 0;
+            }
+        }
+        check.due("the calls of the face, the constructor with them", calls, METHODS.length + 1);
+    }
+
+    /** "Ahead of the calls .. the interface says": the calls stand in that order, behind that line. */
+    private static void sections() throws IOException {
+        String document = Files.readString(Path.of("../shared/DOC.md"), StandardCharsets.UTF_8);
+        String source = Files.readString(SOURCE, StandardCharsets.US_ASCII);
+        Matcher section = SECTION.matcher(document);
+        int at = 0;
+        int many = 0;
+        while (section.find()) {
+            int line = source.indexOf("    // " + section.group(2) + "\n", at);
+            check.holds(section.group(2) + " comes next", line > at);
+            at = Math.max(at, line);
+            for (String name : section.group(1).replace("`", "").split(", ")) {
+                Matcher head = Pattern.compile("public (?:int|long) " + name + "\\(").matcher(source);
+                boolean next = head.find(at);
+                check.holds(name + " comes next", next);
+                at = next ? head.start() : at;
+                many++;
+            }
+        }
+        check.due("calls in all sections", many, METHODS.length);
+    }
+
     private static void source() throws IOException {
-        Path path = Path.of("src/main/java/WinkCircle.java");
-        String text = Files.readString(path, StandardCharsets.US_ASCII);
+        String text = Files.readString(SOURCE, StandardCharsets.US_ASCII);
         String bare = text.replaceAll("(?s)/\\*.*?\\*/", " ").replaceAll("//[^\n]*", " ");
         String[] words = {"throw", "throws", "try", "catch", "synchronized", "assert", "import", "package",
             "double", "float", "equals", "hashCode", "toString"};
